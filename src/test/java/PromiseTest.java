@@ -31,6 +31,7 @@ public final class PromiseTest {
         tick();
         tickToTheEnd();
         undo();
+        undoOfEachKind();
         fortySteps();
         stepsAndNow();
         value();
@@ -46,6 +47,7 @@ public final class PromiseTest {
         cutOfTheLateOnes();
         cutOneByOne();
         trial();
+        trialOfHeldAndDeep();
         trialOfReadings();
         isLoop();
         Check.end();
@@ -485,6 +487,7 @@ public final class PromiseTest {
         x.lie(0, 0);
         Check.due("a lie of 0", x.told(0), 0);
         Check.due("load stays", x.load(0), 5);
+        Check.due("a lie starts nothing anew", x.starts(0), 1);
         Check.outside("lie 5", () -> x.lie(5, 0));
         Check.outside("lie -1", () -> x.lie(-1, -2));
         Check.illegal("lie of 1001", () -> x.lie(0, 1001));
@@ -605,6 +608,43 @@ public final class PromiseTest {
         y.hold(2, 7);
         y.undo();
         Check.refused("what was held is held no more", () -> y.release(2));
+    }
+
+    /** All that was told and undone must be as if it had never been told. */
+    private static void undoOfEachKind() {
+        Daemonsheet x = new Daemonsheet();
+        x.read(0, 1);
+        set(x, 1, "l1");
+        set(x, 2, "c1+r0");
+        x.hold(0, 1);
+        x.need(1, 0, true);
+        x.demand(1, 7, 2);
+        x.lie(1, 5);
+        x.limit(1, 2);
+        x.control(0, 0);
+        x.control(1, 0);
+        x.tick(2);
+        Check.due("told before", x.told(1), 5);
+        Check.due("load before", x.load(1), 6);
+        while (x.steps() > 0) {
+            x.undo();
+        }
+        Check.due("told by no steps", x.told(1), 0);
+        Check.due("load by no steps", x.load(1), 0);
+        Check.due("depth by no steps", x.depth(2), 0);
+        Check.due("value by no steps", x.value(2), 0);
+        Check.due("work by no steps", x.work(), 0);
+        set(x, 3, "1");
+        Check.due("demand, delay, needs, limit and lie are none", x.control(1, 3), 2);
+        Check.due("states", states(x), "02000");
+        Check.due("load", x.load(1), 0);
+        x.demand(1, 9, 0);
+        Check.due("load by the demand alone", x.load(1), 9);
+        Check.due("told by the demand alone", x.told(1), 9);
+        set(x, 4, "r0");
+        Check.due("the reading is 0", x.value(4), 0);
+        Check.due("and was never told", x.isStale(4), true);
+        Check.due("trial", x.trial(1), 1);
     }
 
     private static void fortySteps() {
@@ -1031,6 +1071,28 @@ public final class PromiseTest {
         Check.due("from 0 on, before its delay ends", z.trial(0), 0);
         z.tick(1);
         Check.due("from 0 on, when its delay ends", z.trial(0), 1);
+    }
+
+    private static void trialOfHeldAndDeep() {
+        Daemonsheet x = new Daemonsheet();
+        x.read(0, 1);
+        set(x, 0, "r0");
+        x.control(0, 0);
+        x.demand(0, 1, 0);
+        x.tick(1);
+        Check.due("a reading that is the first step", x.trial(0), 1);
+        x.tick(30);
+        Check.due("told too early", x.trial(0), 0);
+        x.hold(0, 2);
+        Check.due("held, its formula is not stale", x.trial(0), 1);
+        x.hold(0, 0);
+        Check.due("held at 0", x.trial(0), 0);
+        Daemonsheet y = new Daemonsheet();
+        set(y, 2, "7");
+        set(y, 1, "c2");
+        set(y, 0, "c1=0");
+        y.control(0, 0);
+        Check.due("cells are worked out by depth", y.trial(0), 0);
     }
 
     private static void trialOfReadings() {
