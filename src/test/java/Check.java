@@ -2,6 +2,7 @@
 final class Check {
     private static int right = 0;
     private static int wrong = 0;
+    private static String where = "";
 
     /** A call whose exception, or whose lack of one, is looked at. */
     interface Call {
@@ -11,17 +12,21 @@ final class Check {
     private Check() {
     }
 
+    /** What the next answers are looked at for: it stands in front of those that are not as due. */
+    static void in(String name) {
+        where = name + ": ";
+    }
+
+    static int looked() {
+        return right + wrong;
+    }
+
     static void due(String call, long got, long want) {
-        if (got == want) {
-            right++;
-        } else {
-            wrong++;
-            System.out.println(call + " answered " + got + ", due is " + want);
-        }
+        due(call, String.valueOf(got), String.valueOf(want));
     }
 
     static void due(String call, boolean got, boolean want) {
-        due(call, got ? 1 : 0, want ? 1 : 0);
+        due(call, String.valueOf(got), String.valueOf(want));
     }
 
     static void due(String call, String got, String want) {
@@ -29,7 +34,7 @@ final class Check {
             right++;
         } else {
             wrong++;
-            System.out.println(call + " answered " + got + ", due is " + want);
+            System.out.println(where + call + " answered " + got + ", due is " + want);
         }
     }
 

@@ -53,42 +53,6 @@ public final class PromiseTest {
         Check.end();
     }
 
-    // ---- helpers
-
-    private static void put(Daemonsheet x, String text) {
-        x.wipe();
-        for (int i = 0; i < text.length(); i++) {
-            x.type(text.charAt(i));
-        }
-    }
-
-    private static int set(Daemonsheet x, int cell, String text) {
-        put(x, text);
-        return x.formula(cell);
-    }
-
-    private static int worthOf(String text) {
-        Daemonsheet x = new Daemonsheet();
-        set(x, 0, text);
-        return x.value(0);
-    }
-
-    private static void faultDue(String text, int want) {
-        Daemonsheet x = new Daemonsheet();
-        put(x, text);
-        Check.due("fault of " + text, x.fault(), want);
-        Check.thrown("formula of " + text, () -> x.formula(7),
-                want == NONE ? "nothing" : "IllegalArgumentException");
-    }
-
-    private static String states(Daemonsheet x) {
-        StringBuilder all = new StringBuilder();
-        for (int i = 0; i < 5; i++) {
-            all.append(x.state(i));
-        }
-        return all.toString();
-    }
-
     // ---- the promises
 
     private static void newObject() {
@@ -127,7 +91,8 @@ public final class PromiseTest {
         for (int letter = 0; letter <= 0xffff; letter++) {
             char other = (char) letter;
             if (letters.indexOf(other) < 0) {
-                Check.illegal("type of the letter " + letter, () -> x.type(other));
+                // One object is good for 512 calls alone.
+                Check.illegal("type of the letter " + letter, () -> new Daemonsheet().type(other));
             }
         }
         for (int i = 26; i <= 30; i++) {
@@ -140,7 +105,7 @@ public final class PromiseTest {
 
     private static void wipe() {
         Daemonsheet x = new Daemonsheet();
-        put(x, "c1+");
+        Sheet.put(x, "c1+");
         Check.due("wipe", x.wipe(), 3);
         Check.due("wipe again", x.wipe(), 0);
         Check.due("fault behind wipe", x.fault(), 0);
@@ -153,7 +118,7 @@ public final class PromiseTest {
             "-1", "---c1", "(1)", "((1<2)=3)", "1+2-3*4", "1<2", "1>2", "1=2", "m(1,2)", "n(1<2,2=3)",
             "i(1,2,3)", "i(m(1,2)<3,n(4,5),-(6))*7", "1*-2", "1--2", "1+(2<3)", "(1<2)<3"};
         for (String text : texts) {
-            faultDue(text, NONE);
+            Sheet.faultDue(text, NONE);
         }
     }
 
@@ -162,146 +127,146 @@ public final class PromiseTest {
         String[] tooShort = {"-", "c", "r", "l", "m", "n", "i", "(", "1+", "1*", "1<", "(1", "m(",
             "m(1", "m(1,", "m(1,2", "i(1,2", "i(1,2,", "i(1,2,3", "1<2+", "((1)", "1>-"};
         for (String text : tooShort) {
-            faultDue(text, text.length());
+            Sheet.faultDue(text, text.length());
         }
-        faultDue("((((((((((((((((((((((((((((((", 30);
-        faultDue("------------------------------", 30);
-        faultDue("m(m(m(m(m(m(m(m(m(m(m(m(m(m(m(", 30);
-        faultDue("12345", 4);
-        faultDue("c12", 2);
-        faultDue("c00", 2);
-        faultDue("c01", 2);
-        faultDue("c110", 3);
-        faultDue("c20", 2);
-        faultDue("cc", 1);
-        faultDue("c-", 1);
-        faultDue("r5", 1);
-        faultDue("r00", 2);
-        faultDue("r10", 2);
-        faultDue("l5", 1);
-        faultDue("l9", 1);
-        faultDue("l41", 2);
-        faultDue("+1", 0);
-        faultDue(")", 0);
-        faultDue(",", 0);
-        faultDue("1)", 1);
-        faultDue("1,2", 1);
-        faultDue("1(", 1);
-        faultDue("1c1", 1);
-        faultDue("()", 1);
-        faultDue("(1,2)", 2);
-        faultDue("m1", 1);
-        faultDue("m(1)", 3);
-        faultDue("n(1,2,3)", 5);
-        faultDue("i(1,2)", 5);
-        faultDue("i(1,2,3,4)", 7);
-        faultDue("1<2<3", 3);
-        faultDue("1<2=3", 3);
-        faultDue("1<=2", 2);
-        faultDue("(1<2>3)", 4);
-        faultDue("m(1<2,3<4<5)", 9);
-        faultDue("1+*2", 2);
-        faultDue("1**2", 2);
-        faultDue("1+2i", 3);
-        faultDue("(1)(2)", 3);
+        Sheet.faultDue("((((((((((((((((((((((((((((((", 30);
+        Sheet.faultDue("------------------------------", 30);
+        Sheet.faultDue("m(m(m(m(m(m(m(m(m(m(m(m(m(m(m(", 30);
+        Sheet.faultDue("12345", 4);
+        Sheet.faultDue("c12", 2);
+        Sheet.faultDue("c00", 2);
+        Sheet.faultDue("c01", 2);
+        Sheet.faultDue("c110", 3);
+        Sheet.faultDue("c20", 2);
+        Sheet.faultDue("cc", 1);
+        Sheet.faultDue("c-", 1);
+        Sheet.faultDue("r5", 1);
+        Sheet.faultDue("r00", 2);
+        Sheet.faultDue("r10", 2);
+        Sheet.faultDue("l5", 1);
+        Sheet.faultDue("l9", 1);
+        Sheet.faultDue("l41", 2);
+        Sheet.faultDue("+1", 0);
+        Sheet.faultDue(")", 0);
+        Sheet.faultDue(",", 0);
+        Sheet.faultDue("1)", 1);
+        Sheet.faultDue("1,2", 1);
+        Sheet.faultDue("1(", 1);
+        Sheet.faultDue("1c1", 1);
+        Sheet.faultDue("()", 1);
+        Sheet.faultDue("(1,2)", 2);
+        Sheet.faultDue("m1", 1);
+        Sheet.faultDue("m(1)", 3);
+        Sheet.faultDue("n(1,2,3)", 5);
+        Sheet.faultDue("i(1,2)", 5);
+        Sheet.faultDue("i(1,2,3,4)", 7);
+        Sheet.faultDue("1<2<3", 3);
+        Sheet.faultDue("1<2=3", 3);
+        Sheet.faultDue("1<=2", 2);
+        Sheet.faultDue("(1<2>3)", 4);
+        Sheet.faultDue("m(1<2,3<4<5)", 9);
+        Sheet.faultDue("1+*2", 2);
+        Sheet.faultDue("1**2", 2);
+        Sheet.faultDue("1+2i", 3);
+        Sheet.faultDue("(1)(2)", 3);
     }
 
     private static void formula() {
         Daemonsheet x = new Daemonsheet();
-        Check.due("formula", set(x, 3, "7"), 1);
+        Check.due("formula", Sheet.set(x, 3, "7"), 1);
         Check.due("value", x.value(3), 7);
         Check.due("the text stays", x.formula(4), 1);
         Check.due("value of the second", x.value(4), 7);
         Check.due("wipe", x.wipe(), 1);
         Check.illegal("formula of no text", () -> x.formula(3));
         Check.outside("formula of no text in no cell", () -> x.formula(12));
-        put(x, "1");
+        Sheet.put(x, "1");
         Check.outside("formula -1", () -> x.formula(-1));
         Check.due("formula 11", x.formula(11), 1);
         Check.due("steps", x.steps(), 3);
         Check.due("work", x.work(), 3);
-        set(x, 3, "c11+r2");
+        Sheet.set(x, 3, "c11+r2");
         Check.due("a formula in place of another", x.value(3), 1);
-        set(x, 11, "5");
+        Sheet.set(x, 11, "5");
         Check.due("a cell behind it", x.value(3), 5);
-        set(x, 3, "1");
-        set(x, 11, "2");
+        Sheet.set(x, 3, "1");
+        Sheet.set(x, 11, "2");
         Check.due("reads no more", x.value(3), 1);
     }
 
     private static void formulaWorth() {
-        Check.due("10-3-2", worthOf("10-3-2"), 5);
-        Check.due("2+3*4", worthOf("2+3*4"), 14);
-        Check.due("2*3+4", worthOf("2*3+4"), 10);
-        Check.due("(2+3)*4", worthOf("(2+3)*4"), 20);
-        Check.due("2-3*4+1", worthOf("2-3*4+1"), -9);
-        Check.due("-2*3", worthOf("-2*3"), -6);
-        Check.due("--5", worthOf("--5"), 5);
-        Check.due("-2+3", worthOf("-2+3"), 1);
-        Check.due("1+1<2", worthOf("1+1<2"), 0);
-        Check.due("1+1<3", worthOf("1+1<3"), 1);
-        Check.due("3>2", worthOf("3>2"), 1);
-        Check.due("2>2", worthOf("2>2"), 0);
-        Check.due("2=2", worthOf("2=2"), 1);
-        Check.due("2=3", worthOf("2=3"), 0);
-        Check.due("m(3,8)", worthOf("m(3,8)"), 8);
-        Check.due("m(8,3)", worthOf("m(8,3)"), 8);
-        Check.due("n(3,8)", worthOf("n(3,8)"), 3);
-        Check.due("n(8,-3)", worthOf("n(8,-3)"), -3);
-        Check.due("i(1,5,6)", worthOf("i(1,5,6)"), 5);
-        Check.due("i(0,5,6)", worthOf("i(0,5,6)"), 6);
-        Check.due("i(-1,5,6)", worthOf("i(-1,5,6)"), 6);
-        Check.due("i(2<1,5,i(1<2,7,8))+1", worthOf("i(2<1,5,i(1<2,7,8))+1"), 8);
-        Check.due("0012", worthOf("0012"), 12);
-        Check.due("-(2<3)", worthOf("-(2<3)"), -1);
-        Check.due("deep brackets", worthOf("((((((((((((((1))))))))))))))"), 1);
-        Check.due("many minuses", worthOf("-----------------------------3"), -3);
-        Check.due("fifteen numbers", worthOf("1+1+1+1+1+1+1+1+1+1+1+1+1+1+1"), 15);
-        Check.due("to the right", worthOf("1-(1-(1-(1-(1-(1-(1-1))))))"), 0);
+        Check.due("10-3-2", Sheet.worthOf("10-3-2"), 5);
+        Check.due("2+3*4", Sheet.worthOf("2+3*4"), 14);
+        Check.due("2*3+4", Sheet.worthOf("2*3+4"), 10);
+        Check.due("(2+3)*4", Sheet.worthOf("(2+3)*4"), 20);
+        Check.due("2-3*4+1", Sheet.worthOf("2-3*4+1"), -9);
+        Check.due("-2*3", Sheet.worthOf("-2*3"), -6);
+        Check.due("--5", Sheet.worthOf("--5"), 5);
+        Check.due("-2+3", Sheet.worthOf("-2+3"), 1);
+        Check.due("1+1<2", Sheet.worthOf("1+1<2"), 0);
+        Check.due("1+1<3", Sheet.worthOf("1+1<3"), 1);
+        Check.due("3>2", Sheet.worthOf("3>2"), 1);
+        Check.due("2>2", Sheet.worthOf("2>2"), 0);
+        Check.due("2=2", Sheet.worthOf("2=2"), 1);
+        Check.due("2=3", Sheet.worthOf("2=3"), 0);
+        Check.due("m(3,8)", Sheet.worthOf("m(3,8)"), 8);
+        Check.due("m(8,3)", Sheet.worthOf("m(8,3)"), 8);
+        Check.due("n(3,8)", Sheet.worthOf("n(3,8)"), 3);
+        Check.due("n(8,-3)", Sheet.worthOf("n(8,-3)"), -3);
+        Check.due("i(1,5,6)", Sheet.worthOf("i(1,5,6)"), 5);
+        Check.due("i(0,5,6)", Sheet.worthOf("i(0,5,6)"), 6);
+        Check.due("i(-1,5,6)", Sheet.worthOf("i(-1,5,6)"), 6);
+        Check.due("i(2<1,5,i(1<2,7,8))+1", Sheet.worthOf("i(2<1,5,i(1<2,7,8))+1"), 8);
+        Check.due("0012", Sheet.worthOf("0012"), 12);
+        Check.due("-(2<3)", Sheet.worthOf("-(2<3)"), -1);
+        Check.due("deep brackets", Sheet.worthOf("((((((((((((((1))))))))))))))"), 1);
+        Check.due("many minuses", Sheet.worthOf("-----------------------------3"), -3);
+        Check.due("fifteen numbers", Sheet.worthOf("1+1+1+1+1+1+1+1+1+1+1+1+1+1+1"), 15);
+        Check.due("to the right", Sheet.worthOf("1-(1-(1-(1-(1-(1-(1-1))))))"), 0);
     }
 
     private static void formulaKeptWithin() {
-        Check.due("999*1001", worthOf("999*1001"), 999999);
-        Check.due("1000*1000", worthOf("1000*1000"), 1000000);
-        Check.due("1001*1000", worthOf("1001*1000"), 1000000);
-        Check.due("-1001*1000", worthOf("-1001*1000"), -1000000);
-        Check.due("9999*9999*9999-1", worthOf("9999*9999*9999-1"), 999999);
-        Check.due("1000*1000+1-1", worthOf("1000*1000+1-1"), 999999);
-        Check.due("-1000*1000-1+1", worthOf("-1000*1000-1+1"), -999999);
-        Check.due("-9999*9999*(9999*9999)", worthOf("-9999*9999*(9999*9999)"), -1000000);
-        Check.due("9999*9999=1000*1000", worthOf("9999*9999=1000*1000"), 1);
+        Check.due("999*1001", Sheet.worthOf("999*1001"), 999999);
+        Check.due("1000*1000", Sheet.worthOf("1000*1000"), 1000000);
+        Check.due("1001*1000", Sheet.worthOf("1001*1000"), 1000000);
+        Check.due("-1001*1000", Sheet.worthOf("-1001*1000"), -1000000);
+        Check.due("9999*9999*9999-1", Sheet.worthOf("9999*9999*9999-1"), 999999);
+        Check.due("1000*1000+1-1", Sheet.worthOf("1000*1000+1-1"), 999999);
+        Check.due("-1000*1000-1+1", Sheet.worthOf("-1000*1000-1+1"), -999999);
+        Check.due("-9999*9999*(9999*9999)", Sheet.worthOf("-9999*9999*(9999*9999)"), -1000000);
+        Check.due("9999*9999=1000*1000", Sheet.worthOf("9999*9999=1000*1000"), 1);
     }
 
     private static void formulaThatHangs() {
         Daemonsheet x = new Daemonsheet();
-        put(x, "c0");
+        Sheet.put(x, "c0");
         Check.refused("formula of itself", () -> x.formula(0));
         x.formula(1);
-        put(x, "c1");
+        Sheet.put(x, "c1");
         x.formula(2);
         x.formula(3);
-        put(x, "1+c3");
+        Sheet.put(x, "1+c3");
         Check.refused("formula over two", () -> x.formula(0));
-        put(x, "m(c2,r1)");
+        Sheet.put(x, "m(c2,r1)");
         Check.refused("formula over another two", () -> x.formula(0));
         Check.due("steps behind what was refused", x.steps(), 3);
         Check.due("depth behind what was refused", x.depth(0), 0);
         x.hold(1, 4);
-        put(x, "c1");
+        Sheet.put(x, "c1");
         Check.refused("formula over a held one", () -> x.formula(0));
-        set(x, 1, "3");
-        set(x, 0, "c3");
+        Sheet.set(x, 1, "3");
+        Sheet.set(x, 0, "c3");
         Check.due("depth when it hangs no more", x.depth(0), 2);
-        put(x, "i(0,c0,1)");
+        Sheet.put(x, "i(0,c0,1)");
         Check.refused("a branch that is not taken", () -> x.formula(1));
-        set(x, 5, "l0");
+        Sheet.set(x, 5, "l0");
         x.control(0, 5);
         Check.due("over services it may", x.isLoop(0), true);
     }
 
     private static void hold() {
         Daemonsheet x = new Daemonsheet();
-        set(x, 1, "c0*2");
+        Sheet.set(x, 1, "c0*2");
         Check.due("hold", x.hold(0, 1000), 1);
         Check.due("value held", x.value(0), 1000);
         Check.due("value of its reader", x.value(1), 2000);
@@ -310,7 +275,7 @@ public final class PromiseTest {
         int work = x.work();
         x.hold(0, -1000);
         Check.due("the same value makes no work", x.work(), work);
-        set(x, 0, "5");
+        Sheet.set(x, 0, "5");
         Check.due("a held cell is not worked out", x.value(0), -1000);
         Check.due("nor counted", x.work(), work);
         Check.outside("hold 12", () -> x.hold(12, 0));
@@ -330,8 +295,8 @@ public final class PromiseTest {
 
     private static void release() {
         Daemonsheet x = new Daemonsheet();
-        set(x, 0, "4");
-        set(x, 1, "c0");
+        Sheet.set(x, 0, "4");
+        Sheet.set(x, 1, "c0");
         x.hold(0, 9);
         Check.due("value of the reader", x.value(1), 9);
         int work = x.work();
@@ -347,14 +312,14 @@ public final class PromiseTest {
         x.release(0);
         Check.due("a cell held no more is worked out, its reader is not", x.work(), work + 1);
         x.hold(0, 1);
-        set(x, 0, "r0+7");
+        Sheet.set(x, 0, "r0+7");
         x.release(0);
         Check.due("the formula set meanwhile", x.value(0), 7);
     }
 
     private static void read() {
         Daemonsheet x = new Daemonsheet();
-        set(x, 0, "r0-r4");
+        Sheet.set(x, 0, "r0-r4");
         Check.due("read", x.read(0, 1000), 1);
         Check.due("value", x.value(0), 1000);
         x.read(4, -1000);
@@ -369,14 +334,14 @@ public final class PromiseTest {
         Check.illegal("read 1001", () -> x.read(0, 1001));
         Check.illegal("read -1001", () -> x.read(0, -1001));
         Check.due("steps", x.steps(), 5);
-        set(x, 1, "r1");
+        Sheet.set(x, 1, "r1");
         x.control(0, 1);
         Check.due("read that starts a service without demand", x.read(1, 1), 2);
     }
 
     private static void control() {
         Daemonsheet x = new Daemonsheet();
-        set(x, 0, "1");
+        Sheet.set(x, 0, "1");
         Check.due("control", x.control(0, 0), 2);
         Check.due("state", x.state(0), RUNNING);
         Check.due("control by a 0", x.control(0, 11), 2);
@@ -384,7 +349,7 @@ public final class PromiseTest {
         x.control(0, 0);
         Check.due("control by none", x.control(0, NONE), 2);
         Check.due("state by none", x.state(0), STOPPED);
-        set(x, 1, "-1");
+        Sheet.set(x, 1, "-1");
         x.control(4, 1);
         Check.due("state by less than 0", x.state(4), STOPPED);
         Check.outside("control 5", () -> x.control(5, 0));
@@ -396,17 +361,17 @@ public final class PromiseTest {
 
     private static void limit() {
         Daemonsheet x = new Daemonsheet();
-        set(x, 0, "1");
+        Sheet.set(x, 0, "1");
         x.demand(2, 10, 0);
         x.control(2, 0);
-        set(x, 1, "4");
+        Sheet.set(x, 1, "4");
         Check.due("limit", x.limit(2, 1), 2);
         Check.due("load", x.load(2), 4);
-        set(x, 1, "10");
+        Sheet.set(x, 1, "10");
         Check.due("load at the limit", x.load(2), 10);
-        set(x, 1, "11");
+        Sheet.set(x, 1, "11");
         Check.due("load below the limit", x.load(2), 10);
-        set(x, 1, "-3");
+        Sheet.set(x, 1, "-3");
         Check.due("load is not less than 0", x.load(2), 0);
         Check.due("limit by none", x.limit(2, NONE), 2);
         Check.due("load without a limit", x.load(2), 10);
@@ -421,7 +386,7 @@ public final class PromiseTest {
 
     private static void demand() {
         Daemonsheet x = new Daemonsheet();
-        set(x, 0, "1");
+        Sheet.set(x, 0, "1");
         x.control(1, 0);
         Check.due("demand", x.demand(1, 1000, 10), 2);
         Check.due("load", x.load(1), 1000);
@@ -439,17 +404,17 @@ public final class PromiseTest {
 
     private static void need() {
         Daemonsheet x = new Daemonsheet();
-        set(x, 0, "1");
+        Sheet.set(x, 0, "1");
         x.need(0, 3, true);
         x.control(0, 0);
         Check.due("state of what needs", x.state(0), STOPPED);
         Check.due("the later one is seen a round later", x.control(3, 0), 3);
-        Check.due("states of both", states(x), "20020");
+        Check.due("states of both", Sheet.states(x), "20020");
         x.need(4, 3, true);
         Check.due("the earlier one is seen at once", x.control(4, 0), 2);
-        Check.due("states of three", states(x), "20022");
+        Check.due("states of three", Sheet.states(x), "20022");
         x.control(3, NONE);
-        Check.due("states of none", states(x), "00000");
+        Check.due("states of none", Sheet.states(x), "00000");
         x.need(0, 1, true);
         x.need(0, 3, false);
         Check.due("one need is left", x.state(0), STOPPED);
@@ -460,7 +425,7 @@ public final class PromiseTest {
         x.need(2, 1, true);
         x.control(2, 0);
         x.control(1, 0);
-        Check.due("STARTING is not RUNNING", states(x), "21000");
+        Check.due("STARTING is not RUNNING", Sheet.states(x), "21000");
         Check.outside("need of 5", () -> x.need(5, 5, true));
         Check.outside("need of -1", () -> x.need(-1, 0, true));
         Check.outside("need for 5", () -> x.need(0, 5, true));
@@ -472,11 +437,11 @@ public final class PromiseTest {
 
     private static void lie() {
         Daemonsheet x = new Daemonsheet();
-        set(x, 1, "l0");
+        Sheet.set(x, 1, "l0");
         x.demand(0, 5, 0);
         Check.due("lie of one that is stopped", x.lie(0, 1000), 1);
         Check.due("told by one that is stopped", x.told(0), 0);
-        set(x, 0, "1");
+        Sheet.set(x, 0, "1");
         x.control(0, 0);
         Check.due("load", x.load(0), 5);
         Check.due("told", x.told(0), 1000);
@@ -495,17 +460,8 @@ public final class PromiseTest {
         Check.due("steps", x.steps(), 7);
     }
 
-    private static Daemonsheet cutOne() {
-        Daemonsheet x = new Daemonsheet();
-        set(x, 2, "1-l0");
-        x.demand(0, 4, 0);
-        Check.due("rounds up to the cut", x.control(0, 2), 41);
-        Check.due("state", x.state(0), CUT);
-        return x;
-    }
-
     private static void mend() {
-        Daemonsheet x = cutOne();
+        Daemonsheet x = Sheet.cutOne();
         Check.due("load of one that is cut", x.load(0), 0);
         Check.due("it stays cut", x.hold(2, 1), 1);
         Check.due("state behind a step", x.state(0), CUT);
@@ -517,7 +473,7 @@ public final class PromiseTest {
         Check.refused("mend of one that is stopped", () -> x.mend(1));
         Check.outside("mend 5", () -> x.mend(5));
         Check.outside("mend -1", () -> x.mend(-1));
-        Daemonsheet y = cutOne();
+        Daemonsheet y = Sheet.cutOne();
         y.control(0, NONE);
         Check.due("it stays cut without control", y.state(0), CUT);
         Check.due("mend without control", y.mend(0), 1);
@@ -537,7 +493,7 @@ public final class PromiseTest {
         Check.illegal("tick of the least", () -> x.tick(Integer.MIN_VALUE));
         Check.illegal("tick of the greatest", () -> x.tick(Integer.MAX_VALUE));
         Check.due("now behind wrong ones", x.now(), 51);
-        set(x, 0, "1");
+        Sheet.set(x, 0, "1");
         x.demand(0, 1, 4);
         x.control(0, 0);
         Check.due("a start among the ticks", x.tick(6), 7);
@@ -546,7 +502,7 @@ public final class PromiseTest {
 
     private static void tickToTheEnd() {
         Daemonsheet x = new Daemonsheet();
-        set(x, 0, "1");
+        Sheet.set(x, 0, "1");
         for (int i = 0; i < 39; i++) {
             x.tick(50);
         }
@@ -572,19 +528,19 @@ public final class PromiseTest {
     private static void undo() {
         Daemonsheet x = new Daemonsheet();
         Check.refused("undo of none", () -> x.undo());
-        set(x, 0, "r0");
-        set(x, 1, "c0+1");
+        Sheet.set(x, 0, "r0");
+        Sheet.set(x, 1, "c0+1");
         x.demand(0, 3, 2);
         x.control(0, 1);
         x.tick(2);
         x.read(0, 4);
         x.tick(2);
-        Check.due("states", states(x), "20000");
+        Check.due("states", Sheet.states(x), "20000");
         Check.due("starts", x.starts(0), 1);
-        put(x, "l4");
+        Sheet.put(x, "l4");
         Check.due("undo", x.undo(), 6);
         Check.due("now", x.now(), 2);
-        Check.due("states then", states(x), "10000");
+        Check.due("states then", Sheet.states(x), "10000");
         Check.due("starts then", x.starts(0), 0);
         Check.due("the text stays", x.wipe(), 2);
         int work = x.work();
@@ -601,7 +557,7 @@ public final class PromiseTest {
         Check.due("undo the first", x.undo(), 0);
         Check.due("work at first", x.work(), 0);
         Check.refused("undo of none then", () -> x.undo());
-        Daemonsheet y = cutOne();
+        Daemonsheet y = Sheet.cutOne();
         y.undo();
         Check.due("what was cut is cut no more", y.state(0), STOPPED);
         Check.due("what was told before stays", y.control(0, 2), 41);
@@ -614,8 +570,8 @@ public final class PromiseTest {
     private static void undoOfEachKind() {
         Daemonsheet x = new Daemonsheet();
         x.read(0, 1);
-        set(x, 1, "l1");
-        set(x, 2, "c1+r0");
+        Sheet.set(x, 1, "l1");
+        Sheet.set(x, 2, "c1+r0");
         x.hold(0, 1);
         x.need(1, 0, true);
         x.demand(1, 7, 2);
@@ -634,22 +590,22 @@ public final class PromiseTest {
         Check.due("depth by no steps", x.depth(2), 0);
         Check.due("value by no steps", x.value(2), 0);
         Check.due("work by no steps", x.work(), 0);
-        set(x, 3, "1");
+        Sheet.set(x, 3, "1");
         Check.due("demand, delay, needs, limit and lie are none", x.control(1, 3), 2);
-        Check.due("states", states(x), "02000");
+        Check.due("states", Sheet.states(x), "02000");
         Check.due("load", x.load(1), 0);
         x.demand(1, 9, 0);
         Check.due("load by the demand alone", x.load(1), 9);
         Check.due("told by the demand alone", x.told(1), 9);
-        set(x, 4, "r0");
+        Sheet.set(x, 4, "r0");
         Check.due("the reading is 0", x.value(4), 0);
         Check.due("and was never told", x.isStale(4), true);
         Check.due("trial", x.trial(1), 1);
     }
 
     private static void fortySteps() {
-        Daemonsheet x = cutOne();
-        set(x, 3, "5");
+        Daemonsheet x = Sheet.cutOne();
+        Sheet.set(x, 3, "5");
         x.hold(3, 1);
         while (x.steps() < 40) {
             x.read(1, 2);
@@ -693,7 +649,7 @@ public final class PromiseTest {
         Check.due("steps", x.steps(), 2);
         Check.illegal("a wrong one", () -> x.tick(0));
         Check.due("steps behind a wrong one", x.steps(), 2);
-        put(x, "1");
+        Sheet.put(x, "1");
         x.fault();
         x.trial(0);
         x.valueAnew(0);
@@ -729,9 +685,9 @@ public final class PromiseTest {
     private static void value() {
         Daemonsheet x = new Daemonsheet();
         outsideCells(x);
-        set(x, 11, "c0+c1");
-        set(x, 0, "c1*2");
-        set(x, 1, "r0");
+        Sheet.set(x, 11, "c0+c1");
+        Sheet.set(x, 0, "c1*2");
+        Sheet.set(x, 1, "r0");
         x.read(0, 3);
         Check.due("value of the deepest", x.value(11), 9);
         Check.due("value between", x.value(0), 6);
@@ -739,10 +695,10 @@ public final class PromiseTest {
     }
 
     private static void valueAnew() {
-        Daemonsheet x = cutOne();
+        Daemonsheet x = Sheet.cutOne();
         Check.due("value", x.value(2), 1);
         Check.due("valueAnew", x.valueAnew(2), 1);
-        set(x, 3, "c2*2+r0");
+        Sheet.set(x, 3, "c2*2+r0");
         x.read(0, 5);
         x.tick(4);
         x.hold(2, 9);
@@ -756,8 +712,8 @@ public final class PromiseTest {
 
     private static void worth() {
         Daemonsheet x = new Daemonsheet();
-        set(x, 0, "r0*2");
-        set(x, 1, "c0+1");
+        Sheet.set(x, 0, "r0*2");
+        Sheet.set(x, 1, "c0+1");
         x.read(0, 6);
         Check.due("worth", x.worth(1), 13);
         x.hold(0, -4);
@@ -775,17 +731,17 @@ public final class PromiseTest {
     private static void depth() {
         Daemonsheet x = new Daemonsheet();
         for (int i = 0; i < 11; i++) {
-            set(x, i, "c" + (i + 1));
+            Sheet.set(x, i, "c" + (i + 1));
         }
         for (int i = 0; i < 12; i++) {
             Check.due("depth in a row", x.depth(i), 11 - i);
         }
-        set(x, 11, "r0+l0");
+        Sheet.set(x, 11, "r0+l0");
         Check.due("depth by readings and loads", x.depth(11), 0);
-        set(x, 5, "1");
+        Sheet.set(x, 5, "1");
         Check.due("depth in front of the gap", x.depth(0), 5);
         Check.due("depth behind the gap", x.depth(6), 5);
-        set(x, 0, "c5+c6");
+        Sheet.set(x, 0, "c5+c6");
         Check.due("depth by the greater one", x.depth(0), 6);
         x.hold(6, 1);
         Check.due("depth over a held one", x.depth(0), 6);
@@ -793,10 +749,10 @@ public final class PromiseTest {
 
     private static void isStale() {
         Daemonsheet x = new Daemonsheet();
-        set(x, 0, "r0");
-        set(x, 1, "c0");
-        set(x, 2, "r1");
-        set(x, 3, "i(0,r2,1)");
+        Sheet.set(x, 0, "r0");
+        Sheet.set(x, 1, "c0");
+        Sheet.set(x, 2, "r1");
+        Sheet.set(x, 3, "i(0,r2,1)");
         Check.due("never told", x.isStale(0), true);
         Check.due("over a cell", x.isStale(1), true);
         Check.due("in a branch that is not taken", x.isStale(3), true);
@@ -822,7 +778,7 @@ public final class PromiseTest {
 
     private static void staleStartsNothing() {
         Daemonsheet x = new Daemonsheet();
-        set(x, 0, "r0+1");
+        Sheet.set(x, 0, "r0+1");
         x.demand(0, 2, 0);
         Check.due("control by a stale one", x.control(0, 0), 1);
         Check.due("it starts nothing", x.state(0), STOPPED);
@@ -845,8 +801,8 @@ public final class PromiseTest {
         x.hold(0, 1);
         Check.due("a held one starts it", x.state(1), STARTING);
         Daemonsheet y = new Daemonsheet();
-        set(y, 0, "1");
-        set(y, 1, "r0+3");
+        Sheet.set(y, 0, "1");
+        Sheet.set(y, 1, "r0+3");
         y.demand(0, 9, 0);
         y.limit(0, 1);
         y.control(0, 0);
@@ -856,9 +812,9 @@ public final class PromiseTest {
 
     private static void work() {
         Daemonsheet x = new Daemonsheet();
-        set(x, 2, "c1+c0");
-        set(x, 1, "c0>5");
-        set(x, 0, "r0");
+        Sheet.set(x, 2, "c1+c0");
+        Sheet.set(x, 1, "c0>5");
+        Sheet.set(x, 0, "r0");
         Check.due("work by formulas", x.work(), 3);
         x.read(0, 3);
         Check.due("each once: a cell, and two that read it", x.work(), 6);
@@ -866,7 +822,7 @@ public final class PromiseTest {
         Check.due("the deepest once, though both became other ones", x.work(), 9);
         x.read(0, 9);
         Check.due("nothing became another one", x.work(), 9);
-        set(x, 3, "c1");
+        Sheet.set(x, 3, "c1");
         x.read(0, 8);
         Check.due("a value that stays goes no further", x.work(), 13);
         x.formula(3);
@@ -879,12 +835,12 @@ public final class PromiseTest {
         x.undo();
         x.undo();
         Check.due("undone work is none", x.work(), 13);
-        Check.due("work up to a cut", cutOne().work(), 41);
+        Check.due("work up to a cut", Sheet.cutOne().work(), 41);
     }
 
     private static void state() {
         Daemonsheet x = new Daemonsheet();
-        set(x, 0, "r0");
+        Sheet.set(x, 0, "r0");
         x.demand(0, 1, 1);
         x.control(0, 0);
         Check.due("not wanted", x.state(0), STOPPED);
@@ -901,7 +857,7 @@ public final class PromiseTest {
 
     private static void delays() {
         Daemonsheet x = new Daemonsheet();
-        set(x, 0, "1");
+        Sheet.set(x, 0, "1");
         x.demand(0, 6, 3);
         x.tick(5);
         x.control(0, 0);
@@ -930,13 +886,13 @@ public final class PromiseTest {
         x.control(1, 0);
         x.control(2, 0);
         Check.due("one behind the other", x.tick(5), 8);
-        Check.due("both run", states(x), "22200");
+        Check.due("both run", Sheet.states(x), "22200");
     }
 
     private static void loadAndTold() {
         Daemonsheet x = new Daemonsheet();
-        set(x, 0, "1");
-        set(x, 1, "l0+1");
+        Sheet.set(x, 0, "1");
+        Sheet.set(x, 1, "l0+1");
         x.demand(0, 5, 0);
         x.limit(0, 1);
         Check.due("a load that goes up by ones", x.control(0, 0), 6);
@@ -952,7 +908,7 @@ public final class PromiseTest {
 
     private static void starts() {
         Daemonsheet x = new Daemonsheet();
-        set(x, 0, "1");
+        Sheet.set(x, 0, "1");
         x.demand(0, 1, 1);
         x.control(0, 0);
         Check.due("STARTING is no start", x.starts(0), 0);
@@ -966,15 +922,15 @@ public final class PromiseTest {
         Check.due("two", x.starts(0), 2);
         x.undo();
         Check.due("one again", x.starts(0), 1);
-        Check.due("up to a cut", cutOne().starts(0), 20);
+        Check.due("up to a cut", Sheet.cutOne().starts(0), 20);
     }
 
     /** Service 0 changes in as many rounds as its demand, service 1 in each one. */
     private static Daemonsheet twoThatChange(int demand) {
         Daemonsheet x = new Daemonsheet();
-        set(x, 0, "1");
-        set(x, 1, "l0+1");
-        set(x, 2, "1-l1");
+        Sheet.set(x, 0, "1");
+        Sheet.set(x, 1, "l0+1");
+        Sheet.set(x, 2, "1-l1");
         x.demand(0, demand, 0);
         x.limit(0, 1);
         x.demand(1, 1, 0);
@@ -986,14 +942,14 @@ public final class PromiseTest {
     private static void cutOfTheLateOnes() {
         Daemonsheet x = twoThatChange(28);
         Check.due("28 rounds are early", x.control(0, 0), 41);
-        Check.due("the other one is cut", states(x), "23000");
+        Check.due("the other one is cut", Sheet.states(x), "23000");
         x = twoThatChange(29);
         Check.due("29 rounds are late", x.control(0, 0), 41);
-        Check.due("the lowest one is cut", states(x), "30000");
+        Check.due("the lowest one is cut", Sheet.states(x), "30000");
         Check.due("what is cut tells 0", x.value(1), 1);
         x = new Daemonsheet();
-        set(x, 0, "1");
-        set(x, 1, "l0+1");
+        Sheet.set(x, 0, "1");
+        Sheet.set(x, 1, "l0+1");
         x.limit(0, 1);
         x.demand(0, 39, 0);
         Check.due("39 rounds and a quiet one", x.control(0, 0), 40);
@@ -1008,33 +964,33 @@ public final class PromiseTest {
         x.undo();
         x.demand(0, 35, 0);
         x.control(0, 0);
-        set(x, 2, "1-l1");
+        Sheet.set(x, 2, "1-l1");
         x.demand(1, 1, 0);
         Check.due("changes of an earlier step are none of this one", x.control(1, 2), 41);
-        Check.due("the second is cut", states(x), "23000");
+        Check.due("the second is cut", Sheet.states(x), "23000");
     }
 
     private static void cutOneByOne() {
         Daemonsheet x = new Daemonsheet();
-        set(x, 0, "0");
+        Sheet.set(x, 0, "0");
         for (int i = 0; i < 5; i++) {
-            set(x, i + 1, "c0-l" + i);
+            Sheet.set(x, i + 1, "c0-l" + i);
             x.demand(i, 1, 0);
             x.control(i, i + 1);
         }
-        put(x, "1");
+        Sheet.put(x, "1");
         Check.due("rounds of five cuts", x.formula(0), 201);
-        Check.due("all are cut", states(x), "33333");
+        Check.due("all are cut", Sheet.states(x), "33333");
         Check.due("starts of the first", x.starts(0), 20);
         Check.due("starts of the last", x.starts(4), 100);
         Check.due("load of the last", x.load(4), 0);
         x.undo();
-        Check.due("none is cut", states(x), "00000");
+        Check.due("none is cut", Sheet.states(x), "00000");
     }
 
     private static void trial() {
         Daemonsheet x = new Daemonsheet();
-        set(x, 0, "1");
+        Sheet.set(x, 0, "1");
         x.demand(0, 1, 0);
         x.control(0, 0);
         Check.due("the first settling counts", x.trial(0), 1);
@@ -1054,17 +1010,17 @@ public final class PromiseTest {
         x.control(1, 5);
         Check.due("a need that runs", x.trial(0), 1);
         Check.due("trial of the need", x.trial(1), 1);
-        Daemonsheet y = cutOne();
+        Daemonsheet y = Sheet.cutOne();
         Check.due("what is cut is tried", y.trial(0), 20);
         Check.due("and stays cut", y.state(0), CUT);
         y.lie(0, 0);
         Check.due("with its lie", y.trial(0), 1);
         y.lie(0, NONE);
-        set(y, 3, "0-1");
+        Sheet.set(y, 3, "0-1");
         y.limit(0, 3);
         Check.due("with its limit", y.trial(0), 1);
         Daemonsheet z = new Daemonsheet();
-        set(z, 0, "1");
+        Sheet.set(z, 0, "1");
         z.demand(0, 1, 10);
         z.control(0, 0);
         z.tick(9);
@@ -1076,7 +1032,7 @@ public final class PromiseTest {
     private static void trialOfHeldAndDeep() {
         Daemonsheet x = new Daemonsheet();
         x.read(0, 1);
-        set(x, 0, "r0");
+        Sheet.set(x, 0, "r0");
         x.control(0, 0);
         x.demand(0, 1, 0);
         x.tick(1);
@@ -1088,16 +1044,16 @@ public final class PromiseTest {
         x.hold(0, 0);
         Check.due("held at 0", x.trial(0), 0);
         Daemonsheet y = new Daemonsheet();
-        set(y, 2, "7");
-        set(y, 1, "c2");
-        set(y, 0, "c1=0");
+        Sheet.set(y, 2, "7");
+        Sheet.set(y, 1, "c2");
+        Sheet.set(y, 0, "c1=0");
         y.control(0, 0);
         Check.due("cells are worked out by depth", y.trial(0), 0);
     }
 
     private static void trialOfReadings() {
         Daemonsheet x = new Daemonsheet();
-        set(x, 0, "r0");
+        Sheet.set(x, 0, "r0");
         x.demand(0, 1, 0);
         x.control(0, 0);
         x.read(0, 1);
@@ -1111,11 +1067,11 @@ public final class PromiseTest {
         Check.due("it runs all the same", x.state(0), RUNNING);
         x.read(0, 3);
         Check.due("told in the last tick", x.trial(0), 1);
-        set(x, 0, "r0>2");
+        Sheet.set(x, 0, "r0>2");
         Check.due("by the formula of now", x.trial(0), 1);
-        set(x, 0, "r0>3");
+        Sheet.set(x, 0, "r0>3");
         Check.due("by another formula of now", x.trial(0), 0);
-        set(x, 0, "r0+r1+1");
+        Sheet.set(x, 0, "r0+r1+1");
         Check.due("stale ones start nothing", x.trial(0), 0);
         x.tick(3);
         x.read(1, 1);
@@ -1134,7 +1090,7 @@ public final class PromiseTest {
 
     private static void isLoop() {
         Daemonsheet x = new Daemonsheet();
-        set(x, 0, "l0");
+        Sheet.set(x, 0, "l0");
         Check.due("a cell that nothing uses", x.isLoop(0), false);
         x.limit(0, 0);
         Check.due("by its limit", x.isLoop(0), true);
@@ -1143,14 +1099,14 @@ public final class PromiseTest {
         Check.due("by its control", x.isLoop(0), true);
         x.hold(0, 1);
         Check.due("a held cell reads all the same", x.isLoop(0), true);
-        set(x, 0, "1");
+        Sheet.set(x, 0, "1");
         Check.due("no more", x.isLoop(0), false);
-        set(x, 1, "c2");
-        set(x, 2, "c3*0");
-        set(x, 3, "l0");
+        Sheet.set(x, 1, "c2");
+        Sheet.set(x, 2, "c3*0");
+        Sheet.set(x, 3, "l0");
         x.control(0, 1);
         Check.due("over cells", x.isLoop(0), true);
-        set(x, 3, "l1");
+        Sheet.set(x, 3, "l1");
         Check.due("another load", x.isLoop(0), false);
         x.need(1, 2, true);
         x.need(2, 3, true);
