@@ -76,7 +76,7 @@ final class CellSentences {
     // ---- how many there are
 
     @Sentence(promise = 19, ahead = true, says = "Cells are 0 to 11,")
-    static void p19_cells() {
+    static void p19_cells0To11() {
         for (int cell : new int[] {0, 11}) {
             Daemonsheet x = new Daemonsheet();
             Sheet.set(x, cell, "r0+4");

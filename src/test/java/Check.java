@@ -21,6 +21,10 @@ final class Check {
         return right + wrong;
     }
 
+    static int wrong() {
+        return wrong;
+    }
+
     static void due(String call, long got, long want) {
         due(call, String.valueOf(got), String.valueOf(want));
     }

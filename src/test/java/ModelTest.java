@@ -2,8 +2,10 @@ import java.util.Random;
 
 /** Holds the program against the model over many runs of calls, the same ones each time. */
 public final class ModelTest {
-    private static final int RUNS = 1500;
-    private static final int CALLS = 120;
+    private static final int RUNS = 4000;
+    // An object is good for 512 calls: a formula takes up to 33, and the last look at all 102.
+    private static final int CALLS = 370;
+    private static final int QUESTIONS = 14;
 
     private final Random random;
     private final int run;
@@ -11,6 +13,7 @@ public final class ModelTest {
     private final Model model = new Model();
     private final StringBuilder story = new StringBuilder();
     private boolean wrong = false;
+    private int calls = 0;
 
     interface Answer {
         long give();
@@ -120,6 +123,7 @@ public final class ModelTest {
     // ---- calls
 
     private void same(String call, Answer mine, Answer due) {
+        calls++;
         story.append(call).append("; ");
         String got = outcome(mine);
         String want = outcome(due);
@@ -139,10 +143,10 @@ public final class ModelTest {
     }
 
     private void go() {
-        for (int i = 0; i < CALLS && !wrong; i++) {
+        while (calls < CALLS && !wrong) {
             makeSomeCall();
-            if (random.nextInt(3) == 0) {
-                askAll();
+            for (int asked = random.nextInt(15); asked > 0 && calls < CALLS; asked--) {
+                ask(random.nextInt(QUESTIONS), some(12), some(5));
             }
         }
         askAll();
@@ -237,27 +241,61 @@ public final class ModelTest {
         same("fault", () -> sheet.fault(), () -> model.fault());
     }
 
-    private void askAll() {
-        same("steps", () -> sheet.steps(), () -> model.steps.size());
-        same("now", () -> sheet.now(), () -> model.world.now);
-        same("work", () -> sheet.work(), () -> model.world.work);
-        int anew = random.nextInt(12);
-        same("valueAnew " + anew, () -> sheet.valueAnew(anew), () -> model.valueAnew(anew));
-        for (int i = -1; i <= 12; i++) {
-            int c = i;
-            same("value " + c, () -> sheet.value(c), () -> model.value(c));
-            same("worth " + c, () -> sheet.worth(c), () -> model.worth(c));
-            same("depth " + c, () -> sheet.depth(c), () -> model.depth(c));
-            same("isStale " + c, () -> sheet.isStale(c) ? 1 : 0, () -> model.isStale(c));
+    private void ask(int question, int c, int s) {
+        switch (question) {
+            case 0:
+                same("value " + c, () -> sheet.value(c), () -> model.value(c));
+                break;
+            case 1:
+                same("worth " + c, () -> sheet.worth(c), () -> model.worth(c));
+                break;
+            case 2:
+                same("depth " + c, () -> sheet.depth(c), () -> model.depth(c));
+                break;
+            case 3:
+                same("isStale " + c, () -> sheet.isStale(c) ? 1 : 0, () -> model.isStale(c));
+                break;
+            case 4:
+                same("state " + s, () -> sheet.state(s), () -> model.ofService(model.world.state, s));
+                break;
+            case 5:
+                same("load " + s, () -> sheet.load(s), () -> model.ofService(model.world.load, s));
+                break;
+            case 6:
+                same("told " + s, () -> sheet.told(s), () -> model.ofService(model.world.told, s));
+                break;
+            case 7:
+                same("starts " + s, () -> sheet.starts(s), () -> model.ofService(model.world.starts, s));
+                break;
+            case 8:
+                same("isLoop " + s, () -> sheet.isLoop(s) ? 1 : 0, () -> model.isLoop(s));
+                break;
+            case 9:
+                same("trial " + s, () -> sheet.trial(s), () -> model.trial(s));
+                break;
+            case 10:
+                same("steps", () -> sheet.steps(), () -> model.steps.size());
+                break;
+            case 11:
+                same("now", () -> sheet.now(), () -> model.world.now);
+                break;
+            case 12:
+                same("work", () -> sheet.work(), () -> model.world.work);
+                break;
+            default:
+                same("valueAnew " + c, () -> sheet.valueAnew(c), () -> model.valueAnew(c));
+                break;
         }
-        for (int i = -1; i <= 5; i++) {
-            int s = i;
-            same("state " + s, () -> sheet.state(s), () -> model.ofService(model.world.state, s));
-            same("load " + s, () -> sheet.load(s), () -> model.ofService(model.world.load, s));
-            same("told " + s, () -> sheet.told(s), () -> model.ofService(model.world.told, s));
-            same("starts " + s, () -> sheet.starts(s), () -> model.ofService(model.world.starts, s));
-            same("trial " + s, () -> sheet.trial(s), () -> model.trial(s));
-            same("isLoop " + s, () -> sheet.isLoop(s) ? 1 : 0, () -> model.isLoop(s));
+    }
+
+    private void askAll() {
+        for (int place = -1; place <= 12; place++) {
+            for (int question = 0; question < (place <= 5 ? 10 : 4); question++) {
+                ask(question, place, place);
+            }
+        }
+        for (int question = 10; question < QUESTIONS; question++) {
+            ask(question, random.nextInt(12), 0);
         }
     }
 }

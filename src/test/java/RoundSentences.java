@@ -232,7 +232,7 @@ final class RoundSentences {
     @Sentence(promise = 25, ahead = true,
             says = "the lowest service for which something of these changed in some of the last 12 "
             + "of them is CUT,")
-    static void p25_eachOfThreeChangesIsCut() {
+    static void p25_aLoadOrAStateAloneIsAChange() {
         Daemonsheet x = new Daemonsheet();
         x.hold(0, 1);
         Sheet.set(x, 1, "1-l4");

@@ -5,13 +5,15 @@ import java.nio.file.Path;
 import java.util.ArrayList;
 import java.util.Arrays;
 import java.util.Comparator;
+import java.util.HashSet;
 import java.util.List;
+import java.util.Set;
 import java.util.regex.Matcher;
 import java.util.regex.Pattern;
 
 /**
  * Makes each test that bears a sentence of the document, and looks whether any word of the document
- * is left without one. A test is named by its promise's number; what fails is told with its name
+ * is left without one. A test's name begins with its promise's number; each is told with its name
  * and its sentence. Run from the project's root.
  */
 public final class SentenceTest {
@@ -37,6 +39,7 @@ public final class SentenceTest {
 
     private final Doc doc = new Doc(Path.of("../shared/DOC.md"));
     private final List<List<String>> held = new ArrayList<>();
+    private final Set<String> names = new HashSet<>();
 
     private SentenceTest() throws IOException {
         for (int i = 0; i <= Doc.PROMISES; i++) {
@@ -65,9 +68,12 @@ public final class SentenceTest {
 
     private void make(Method method) throws IllegalAccessException {
         Sentence sentence = method.getAnnotation(Sentence.class);
-        Check.in(method.getName() + " (promise " + sentence.promise() + ": " + sentence.says() + ")");
+        String name = method.getName() + " (promise " + sentence.promise() + ": " + sentence.says() + ")";
+        int wrong = Check.wrong();
+        Check.in(name);
         Check.due("the name has the promise's number",
                 method.getName().startsWith(String.format("p%02d_", sentence.promise())), true);
+        Check.due("no other test has the name", names.add(method.getName()), true);
         String where = sentence.ahead() ? doc.ahead() : doc.promise(sentence.promise());
         Check.due("the words stand in the document", where.contains(sentence.says()), true);
         held.get(sentence.ahead() ? 0 : sentence.promise()).add(sentence.says());
@@ -81,6 +87,7 @@ public final class SentenceTest {
         }
         Check.due("what the test throws", thrown, "nothing");
         Check.due("it looks at an answer", Check.looked() > looked, true);
+        System.out.println((Check.wrong() == wrong ? "holds: " : "DOES NOT HOLD: ") + name);
     }
 
     // ---- the block of the class's face

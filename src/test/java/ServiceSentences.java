@@ -153,7 +153,7 @@ final class ServiceSentences {
 
     @Sentence(promise = 27, ahead = true, says = "The load that it tells is its lie, if it has one "
             + "and is RUNNING, otherwise its load.")
-    static void p27_told() {
+    static void p27_lieOrLoad() {
         Daemonsheet x = Sheet.wanted(7, 1);
         x.lie(0, 9);
         Check.due("STARTING", x.told(0), 0);
