@@ -1,10 +1,16 @@
 import java.io.IOException;
+import java.lang.reflect.Field;
+import java.lang.reflect.Method;
+import java.lang.reflect.Modifier;
 import java.nio.file.Files;
 import java.nio.file.Path;
 import java.util.List;
 import java.util.regex.Pattern;
 
-/** The rules of LANGUAGE.md that a look at the program's text can tell; run from the project's root. */
+/**
+ * The rules of LANGUAGE.md that a look at the program's text, or at its classes, can tell; run from
+ * the project's root.
+ */
 public final class LanguageTest {
     private static final String[] FORBIDDEN = {"->", "::", "\\btry\\b", "\\bcatch\\b", "\\bfinally\\b",
         "\\bsynchronized\\b", "\\bassert\\b", "\\bprotected\\b", "\\bequals\\b", "\\bhashCode\\b",
@@ -12,6 +18,9 @@ public final class LanguageTest {
         "\\bSystem\\.(?!arraycopy)", "\\bThread\\b", "\\bObject\\b", "\\+ \"", "\" \\+",
         "throw new (?!IllegalStateException|IllegalArgumentException|IndexOutOfBoundsException)"};
     private static final int LONGEST_METHOD = 60;
+    private static final int MOST_CLASSES = 12;
+    private static final int MOST_FIELDS = 20;
+    private static final int MOST_PARAMETERS = 7;
 
     private LanguageTest() {
     }
@@ -38,7 +47,28 @@ public final class LanguageTest {
                 Check.due(place + " ends a method that is too long", i - head >= LONGEST_METHOD, false);
             }
         }
+        checkSizes(Daemonsheet.class);
         Check.end();
+    }
+
+    private static void checkSizes(Class<?> face) {
+        Check.due("too many classes", face.getDeclaredClasses().length >= MOST_CLASSES, false);
+        checkSize(face);
+        for (Class<?> inner : face.getDeclaredClasses()) {
+            checkSize(inner);
+        }
+    }
+
+    private static void checkSize(Class<?> one) {
+        int fields = 0;
+        for (Field field : one.getDeclaredFields()) {
+            fields += Modifier.isStatic(field.getModifiers()) ? 0 : 1;
+        }
+        Check.due(one + " has too many fields", fields > MOST_FIELDS, false);
+        for (Method method : one.getDeclaredMethods()) {
+            Check.due(method + " has too many parameters",
+                    method.getParameterCount() > MOST_PARAMETERS, false);
+        }
     }
 
     private static void checkWords(String place, String line) {
